@@ -31,6 +31,10 @@ final class Check {
         due("the state behind a refused " + what, state(x), before);
     }
 
+    boolean allRight() {
+        return wrong == 0;
+    }
+
     void end() {
         System.out.println(wrong == 0 ? "all answers are as due" : wrong + " answers are not as due");
         if (wrong != 0) {
