@@ -30,11 +30,15 @@ public final class DelayedExtents {
             throws IndexOutOfBoundsException, IllegalStateException, UnsupportedOperationException {
         requireBlock(file, block);
         BlockFile f = files[file];
-        if (f.hasPage(block)) {
-            // What is reserved does not depend on a page's value, so room need not be looked for.
-            f.putPage(block, value);
-        } else {
-            addPage(f, block, value);
+        boolean isNew = !f.hasPage(block);
+        if (isNew && countPages() >= PAGES) {
+            throw new IllegalStateException();
+        }
+        f.putPage(block, value);
+        // Only a new page can reserve more; another value in an old one needs no more room.
+        if (isNew && isOverbooked()) {
+            f.dropPage(block);
+            throw new UnsupportedOperationException();
         }
         f.growTo(block + 1);
     }
@@ -194,17 +198,6 @@ public final class DelayedExtents {
             return 0;
         }
         return (extents + EXTENTS_OF_TREE_BLOCK - 1) / EXTENTS_OF_TREE_BLOCK;
-    }
-
-    private void addPage(BlockFile f, int block, int value) {
-        if (countPages() >= PAGES) {
-            throw new IllegalStateException();
-        }
-        f.putPage(block, value);
-        if (isOverbooked()) {
-            f.dropPage(block);
-            throw new UnsupportedOperationException();
-        }
     }
 
     private int countPages() {

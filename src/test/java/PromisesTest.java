@@ -27,6 +27,7 @@ public final class PromisesTest {
         t.preallocateWithoutPlaces();
         t.preallocateWithoutRoomForTree();
         t.mapBehindTheBlockBefore();
+        t.mapBehindBlock0();
         t.mapToTheShortestThatFits();
         t.mapToTheLongestWhenNoneFits();
         t.mapAtTheEndOfTheVolume();
@@ -310,6 +311,17 @@ public final class PromisesTest {
         x.punch(3, 10, 1);
         x.preallocate(3, 0, 1);
         check.due("extents", Check.extents(x, 3), "0@0x1u");
+    }
+
+    private void mapBehindBlock0() {
+        check.part("to map, behind block 0");
+        DelayedExtents x = new DelayedExtents();
+        x.preallocate(0, 0, 6);
+        x.punch(0, 1, 2);
+        x.punch(0, 4, 1);
+        // Place 4 is a shorter row, but place 1 is behind block 0's.
+        check.due("preallocate(0, 1, 1)", x.preallocate(0, 1, 1), 1);
+        check.due("extents", Check.extents(x, 0), "0@0x2u 3@3x1u 5@5x1u");
     }
 
     private void mapToTheShortestThatFits() {
