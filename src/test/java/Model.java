@@ -155,11 +155,11 @@ final class Model {
             for (int what = 0; what < 6; what++) {
                 s.append(' ').append(about(f, what));
             }
-            s.append(" extents");
+            List<String> told = new ArrayList<>();
             for (int[] e : extents(f)) {
-                s.append(' ').append(e[0]).append('@').append(e[1]).append('x').append(e[2]).append(e[3] == 1 ? "u" : "");
+                told.add(e[0] + "@" + e[1] + "x" + e[2] + (e[3] == 1 ? "u" : ""));
             }
-            s.append(" reads");
+            s.append(" extents ").append(String.join(" ", told)).append(" reads");
             for (int b = 0; b < 60; b++) {
                 s.append(' ').append(readsAs(60 * f + b));
             }

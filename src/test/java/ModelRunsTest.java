@@ -2,16 +2,18 @@ import java.util.TreeMap;
 
 /** Long runs of calls on the class and on the model; every answer and every state must agree. */
 public final class ModelRunsTest {
-    private static final int RUNS = 300;
-    private static final int CALLS = 512;
-    private static final int CALLS_BETWEEN_STATES = 16;
+    private static final int RUNS = 500;
+    /** A look at the whole state needs some of the calls that an object has. */
+    private static final int CALLS = Tested.MOST_CALLS - 72;
+    private static final int CALLS_BETWEEN_STATES = 40;
     /** How often to write, preallocate, flush, punch, crash or truncate, and ask. */
     private static final int[][] WEIGHTS = {
-        {16, 6, 4, 2, 1, 12},
-        {16, 6, 4, 6, 2, 12},
-        {24, 1, 1, 2, 1, 12},
-        {12, 8, 2, 8, 1, 12},
-        {16, 3, 6, 8, 4, 12},
+        {16, 6, 4, 2, 1, 2},
+        {16, 6, 4, 6, 2, 2},
+        {24, 1, 1, 2, 1, 2},
+        {12, 8, 2, 8, 1, 2},
+        {16, 3, 6, 8, 4, 2},
+        {16, 6, 4, 2, 1, 30},
     };
     private static final int[] ODD = {-1, Integer.MIN_VALUE, Integer.MAX_VALUE, 4, 60, 61, 80};
     private static final int[] LENGTHS = {1, 2, 3, 5, 8, 13, 30, 60};
@@ -20,7 +22,7 @@ public final class ModelRunsTest {
     /** How often each call had each kind of answer: a run that never throws tests too little. */
     private final TreeMap<String, Integer> seen = new TreeMap<>();
     private long seed;
-    private DelayedExtents x;
+    private Tested x;
     private Model m;
 
     public static void main(String[] args) {
@@ -60,16 +62,18 @@ public final class ModelRunsTest {
 
     private void oneRun(int run) {
         seed = run * 7919L;
-        x = new DelayedExtents();
+        x = new Tested();
         m = new Model();
         // Some runs stay in few blocks; some fill the volume, some the pages, some give back much.
         int reach = run % 3 == 0 ? 20 : 60;
         int[] weights = WEIGHTS[run % WEIGHTS.length];
-        for (int call = 0; call < CALLS; call++) {
+        int nextState = CALLS_BETWEEN_STATES;
+        while (x.calls() < CALLS) {
             oneCall(reach, weights);
-            check.due("whether free is less than reserved", x.free() < x.reserved() ? 1 : 0, 0);
-            if (call % CALLS_BETWEEN_STATES == 0) {
-                check.due("the state at call " + call, Check.state(x), m.state());
+            check.due("whether free is less than reserved", m.free() < m.reserved() ? 1 : 0, 0);
+            if (x.calls() >= nextState) {
+                check.due("the state at call " + x.calls(), Check.state(x), m.state());
+                nextState += CALLS_BETWEEN_STATES;
             }
         }
         check.due("the state at the end", Check.state(x), m.state());
@@ -82,7 +86,7 @@ public final class ModelRunsTest {
         switch (drawn(weights)) {
             case 0:
                 int value = 1 + below(1000);
-                agree("write", file, block, value, Check.answer(Check.write(x, file, block, value)), m.write(file, block, value));
+                agree("write", file, block, value, Check.answer(() -> Check.write(file, block, value).applyAsInt(x)), m.write(file, block, value));
                 break;
             case 1:
                 agree("preallocate", file, block, n, Check.answer(() -> x.preallocate(file, block, n)), m.preallocate(file, block, n));

@@ -1,11 +1,11 @@
 /** Each promise of the document by itself: ordinary inputs, the edges it names, and wrong inputs. */
 public final class PromisesTest {
-    private static final Class<IndexOutOfBoundsException> INDEX = IndexOutOfBoundsException.class;
-    private static final Class<IllegalArgumentException> ARGUMENT = IllegalArgumentException.class;
-    private static final Class<IllegalStateException> STATE = IllegalStateException.class;
-    private static final Class<UnsupportedOperationException> ROOM = UnsupportedOperationException.class;
-    private static final int MIN = Integer.MIN_VALUE;
-    private static final int MAX = Integer.MAX_VALUE;
+    private static final Class<IndexOutOfBoundsException> INDEX = Check.INDEX;
+    private static final Class<IllegalArgumentException> ARGUMENT = Check.ARGUMENT;
+    private static final Class<IllegalStateException> STATE = Check.STATE;
+    private static final Class<UnsupportedOperationException> ROOM = Check.ROOM;
+    private static final int MIN = Check.MIN;
+    private static final int MAX = Check.MAX;
     private static final int[] NO_FILES = {-1, 4, MIN, MAX};
     private static final int[] NO_BLOCKS = {-1, 60, MIN, MAX};
     private static final int[] NO_PLACES = {-1, 80, MIN, MAX};
@@ -50,7 +50,7 @@ public final class PromisesTest {
 
     private void newObject() {
         check.part("promise 1, new object");
-        DelayedExtents x = new DelayedExtents();
+        Tested x = new Tested();
         for (int f = 0; f < 4; f++) {
             for (int what = 0; what <= 5; what++) {
                 check.due("about(" + f + ", " + what + ")", x.about(f, what), 0);
@@ -71,8 +71,8 @@ public final class PromisesTest {
 
     private void objectsAreApart() {
         check.part("promise 1, two objects");
-        DelayedExtents one = new DelayedExtents();
-        DelayedExtents other = new DelayedExtents();
+        Tested one = new Tested();
+        Tested other = new Tested();
         String empty = Check.state(other);
         one.write(0, 0, 5);
         one.flush(0);
@@ -82,7 +82,7 @@ public final class PromisesTest {
 
     private void write() {
         check.part("promise 2, write");
-        DelayedExtents x = new DelayedExtents();
+        Tested x = new Tested();
         x.write(0, 0, 7);
         check.due("read(0, 0)", x.read(0, 0), 7);
         check.due("size", x.about(0, 0), 1);
@@ -99,28 +99,28 @@ public final class PromisesTest {
         check.due("other file's pages", x.about(1, 4), 0);
         check.due("other file's read", x.read(1, 0), 0);
         for (int file : NO_FILES) {
-            check.refused("write(" + file + ", 0, 1)", x, INDEX, Check.write(x, file, 0, 1));
+            check.refused("write(" + file + ", 0, 1)", x, INDEX, Check.write(file, 0, 1));
         }
         for (int block : NO_BLOCKS) {
-            check.refused("write(0, " + block + ", 1)", x, INDEX, Check.write(x, 0, block, 1));
+            check.refused("write(0, " + block + ", 1)", x, INDEX, Check.write(0, block, 1));
         }
     }
 
     private void writeWithoutPages() {
         check.part("promise 2, write with 24 pages");
-        DelayedExtents x = new DelayedExtents();
+        Tested x = new Tested();
         for (int i = 0; i < 24; i++) {
             x.write(i % 4, i / 4, 100 + i);
         }
-        check.refused("write of a block without a page", x, STATE, Check.write(x, 2, 50, 1));
-        check.refused("write of no such block", x, INDEX, Check.write(x, 2, 60, 1));
-        check.refused("write of no such file", x, INDEX, Check.write(x, 4, 0, 1));
+        check.refused("write of a block without a page", x, STATE, Check.write(2, 50, 1));
+        check.refused("write of no such block", x, INDEX, Check.write(2, 60, 1));
+        check.refused("write of no such file", x, INDEX, Check.write(4, 0, 1));
         x.write(3, 5, 9);
         check.due("read of a page written again", x.read(3, 5), 9);
         x.punch(3, 5, 1);
         x.write(2, 50, 1);
         check.due("read when a page had gone", x.read(2, 50), 1);
-        check.refused("write of a block whose page went", x, STATE, Check.write(x, 3, 5, 1));
+        check.refused("write of a block whose page went", x, STATE, Check.write(3, 5, 1));
         x.flush(0);
         x.write(3, 5, 2);
         check.due("pages", x.about(3, 4), 6);
@@ -128,7 +128,7 @@ public final class PromisesTest {
 
     private void writeWithoutRoom() {
         check.part("promise 2, write without room");
-        DelayedExtents x = new DelayedExtents();
+        Tested x = new Tested();
         // 49 mapped and 2 of the tree leave 29: just enough for 23 holes and 6 of their tree.
         x.preallocate(0, 0, 49);
         for (int b = 0; b < 23; b++) {
@@ -136,9 +136,9 @@ public final class PromisesTest {
         }
         check.due("free()", x.free(), 29);
         check.due("reserved()", x.reserved(), 29);
-        check.refused("write of a hole", x, ROOM, Check.write(x, 2, 59, 1));
-        check.refused("write of the same file's hole", x, ROOM, Check.write(x, 1, 23, 1));
-        check.refused("write of an unwritten block", x, ROOM, Check.write(x, 0, 20, 1));
+        check.refused("write of a hole", x, ROOM, Check.write(2, 59, 1));
+        check.refused("write of the same file's hole", x, ROOM, Check.write(1, 23, 1));
+        check.refused("write of an unwritten block", x, ROOM, Check.write(0, 20, 1));
         x.write(1, 22, 99);
         check.due("read of a page written again", x.read(1, 22), 99);
         check.due("flush(1)", x.flush(1), 23);
@@ -150,19 +150,19 @@ public final class PromisesTest {
 
     private void writePagesBeforeRoom() {
         check.part("promise 2, write without pages and without room");
-        DelayedExtents x = new DelayedExtents();
+        Tested x = new Tested();
         x.preallocate(0, 0, 48);
         for (int b = 0; b < 24; b++) {
             x.write(1, b, 1);
         }
         check.due("free()", x.free(), 30);
         check.due("reserved()", x.reserved(), 30);
-        check.refused("write of a hole", x, STATE, Check.write(x, 2, 0, 1));
+        check.refused("write of a hole", x, STATE, Check.write(2, 0, 1));
     }
 
     private void read() {
         check.part("promise 3, read");
-        DelayedExtents x = new DelayedExtents();
+        Tested x = new Tested();
         x.write(1, 4, 40);
         x.flush(1);
         check.due("a written block", x.read(1, 4), 40);
@@ -181,16 +181,16 @@ public final class PromisesTest {
         x.write(2, 59, 6);
         check.due("the last block", x.read(2, 59), 6);
         for (int file : NO_FILES) {
-            check.refused("read(" + file + ", 0)", x, INDEX, () -> x.read(file, 0));
+            check.refused("read(" + file + ", 0)", x, INDEX, y -> y.read(file, 0));
         }
         for (int block : NO_BLOCKS) {
-            check.refused("read(0, " + block + ")", x, INDEX, () -> x.read(0, block));
+            check.refused("read(0, " + block + ")", x, INDEX, y -> y.read(0, block));
         }
     }
 
     private void preallocate() {
         check.part("promise 4, preallocate");
-        DelayedExtents x = new DelayedExtents();
+        Tested x = new Tested();
         check.due("preallocate(3, 50, 10)", x.preallocate(3, 50, 10), 10);
         check.due("size", x.about(3, 0), 0);
         check.due("extents", Check.extents(x, 3), "50@0x8u 58@8x2u");
@@ -199,22 +199,22 @@ public final class PromisesTest {
         check.due("extents", Check.extents(x, 3), "48@10x2u 50@0x8u 58@8x2u");
         check.due("preallocate(3, 59, 1)", x.preallocate(3, 59, 1), 0);
         for (int file : NO_FILES) {
-            check.refused("preallocate(" + file + ", 0, 0)", x, INDEX, () -> x.preallocate(file, 0, 0));
+            check.refused("preallocate(" + file + ", 0, 0)", x, INDEX, y -> y.preallocate(file, 0, 0));
         }
         for (int block : NO_BLOCKS) {
-            check.refused("preallocate(0, " + block + ", 1)", x, INDEX, () -> x.preallocate(0, block, 1));
-            check.refused("preallocate(0, " + block + ", 0)", x, INDEX, () -> x.preallocate(0, block, 0));
+            check.refused("preallocate(0, " + block + ", 1)", x, INDEX, y -> y.preallocate(0, block, 1));
+            check.refused("preallocate(0, " + block + ", 0)", x, INDEX, y -> y.preallocate(0, block, 0));
         }
         for (int n : new int[] {0, -1, MIN, 51, 61, MAX}) {
-            check.refused("preallocate(0, 10, " + n + ")", x, ARGUMENT, () -> x.preallocate(0, 10, n));
+            check.refused("preallocate(0, 10, " + n + ")", x, ARGUMENT, y -> y.preallocate(0, 10, n));
         }
-        check.refused("preallocate(0, 59, 2)", x, ARGUMENT, () -> x.preallocate(0, 59, 2));
+        check.refused("preallocate(0, 59, 2)", x, ARGUMENT, y -> y.preallocate(0, 59, 2));
         check.due("preallocate(0, 10, 50)", x.preallocate(0, 10, 50), 50);
     }
 
     private void preallocateOverPages() {
         check.part("promise 4, preallocate of blocks with pages");
-        DelayedExtents x = new DelayedExtents();
+        Tested x = new Tested();
         x.write(0, 2, 22);
         x.write(0, 4, 44);
         x.flush(0);
@@ -234,17 +234,17 @@ public final class PromisesTest {
 
     private void preallocateWithoutRoom() {
         check.part("promise 4, preallocate without room");
-        DelayedExtents x = new DelayedExtents();
+        Tested x = new Tested();
         x.preallocate(0, 0, 60);
         check.due("free()", x.free(), 18);
         x.write(1, 59, 7);
         check.due("reserved()", x.reserved(), 1);
-        check.refused("preallocate(2, 0, 18)", x, ROOM, () -> x.preallocate(2, 0, 18));
-        check.refused("preallocate(2, 43, 18)", x, ARGUMENT, () -> x.preallocate(2, 43, 18));
-        check.refused("preallocate(4, 0, 18)", x, INDEX, () -> x.preallocate(4, 0, 18));
+        check.refused("preallocate(2, 0, 18)", x, ROOM, y -> y.preallocate(2, 0, 18));
+        check.refused("preallocate(2, 43, 18)", x, ARGUMENT, y -> y.preallocate(2, 43, 18));
+        check.refused("preallocate(4, 0, 18)", x, INDEX, y -> y.preallocate(4, 0, 18));
         check.due("preallocate that leaves just as many", x.preallocate(2, 0, 17), 17);
         check.due("free()", x.free(), 1);
-        check.refused("preallocate(3, 0, 1)", x, ROOM, () -> x.preallocate(3, 0, 1));
+        check.refused("preallocate(3, 0, 1)", x, ROOM, y -> y.preallocate(3, 0, 1));
         check.due("preallocate without a hole", x.preallocate(2, 0, 17), 0);
         check.due("preallocate of the hole with the page", x.preallocate(1, 59, 1), 1);
         check.due("free()", x.free(), 0);
@@ -255,17 +255,17 @@ public final class PromisesTest {
 
     private void preallocateWithoutPlaces() {
         check.part("promise 4, preallocate of more holes than places");
-        DelayedExtents x = new DelayedExtents();
+        Tested x = new Tested();
         x.preallocate(0, 0, 60);
-        check.refused("preallocate(1, 0, 60)", x, ROOM, () -> x.preallocate(1, 0, 60));
-        check.refused("preallocate(1, 0, 21)", x, ROOM, () -> x.preallocate(1, 0, 21));
-        check.refused("preallocate(1, 0, 20)", x, ROOM, () -> x.preallocate(1, 0, 20));
+        check.refused("preallocate(1, 0, 60)", x, ROOM, y -> y.preallocate(1, 0, 60));
+        check.refused("preallocate(1, 0, 21)", x, ROOM, y -> y.preallocate(1, 0, 21));
+        check.refused("preallocate(1, 0, 20)", x, ROOM, y -> y.preallocate(1, 0, 20));
         check.due("preallocate(1, 0, 18)", x.preallocate(1, 0, 18), 18);
     }
 
     private void preallocateWithoutRoomForTree() {
         check.part("promise 4, preallocate without room for the tree");
-        DelayedExtents x = new DelayedExtents();
+        Tested x = new Tested();
         // Three files of 3 extents each: one more in any of them costs a tree block too.
         x.preallocate(0, 0, 24);
         x.preallocate(1, 0, 24);
@@ -278,14 +278,14 @@ public final class PromisesTest {
         check.due("punch(0, 30, 1)", x.punch(0, 30, 1), 1);
         check.due("preallocate(3, 16, 1)", x.preallocate(3, 16, 1), 1);
         check.due("free()", x.free(), 1);
-        check.refused("preallocate(0, 30, 1)", x, ROOM, () -> x.preallocate(0, 30, 1));
+        check.refused("preallocate(0, 30, 1)", x, ROOM, y -> y.preallocate(0, 30, 1));
         check.due("preallocate(3, 17, 1)", x.preallocate(3, 17, 1), 1);
         check.due("free()", x.free(), 0);
     }
 
     private void mapBehindTheBlockBefore() {
         check.part("to map, behind the block before");
-        DelayedExtents x = new DelayedExtents();
+        Tested x = new Tested();
         x.preallocate(0, 0, 5);
         x.preallocate(1, 0, 5);
         x.punch(0, 2, 3);
@@ -315,7 +315,7 @@ public final class PromisesTest {
 
     private void mapBehindBlock0() {
         check.part("to map, behind block 0");
-        DelayedExtents x = new DelayedExtents();
+        Tested x = new Tested();
         x.preallocate(0, 0, 6);
         x.punch(0, 1, 2);
         x.punch(0, 4, 1);
@@ -326,7 +326,7 @@ public final class PromisesTest {
 
     private void mapToTheShortestThatFits() {
         check.part("to map, the shortest row that fits");
-        DelayedExtents x = new DelayedExtents();
+        Tested x = new Tested();
         x.preallocate(0, 0, 40);
         x.punch(0, 2, 4);
         x.punch(0, 10, 2);
@@ -347,7 +347,7 @@ public final class PromisesTest {
 
     private void mapToTheLongestWhenNoneFits() {
         check.part("to map, the longest row when none fits");
-        DelayedExtents x = new DelayedExtents();
+        Tested x = new Tested();
         x.preallocate(0, 0, 60);
         x.preallocate(1, 0, 14);
         x.punch(0, 2, 2);
@@ -367,7 +367,7 @@ public final class PromisesTest {
 
     private void mapAtTheEndOfTheVolume() {
         check.part("to map, at the end of the volume");
-        DelayedExtents x = new DelayedExtents();
+        Tested x = new Tested();
         x.preallocate(0, 0, 60);
         x.preallocate(1, 0, 18);
         x.punch(0, 50, 10);
@@ -389,7 +389,7 @@ public final class PromisesTest {
 
     private void punch() {
         check.part("promise 5, punch");
-        DelayedExtents x = new DelayedExtents();
+        Tested x = new Tested();
         for (int b = 0; b < 6; b++) {
             x.write(0, b, 10 + b);
         }
@@ -414,20 +414,20 @@ public final class PromisesTest {
         x.preallocate(0, 59, 1);
         check.due("punch(0, 59, 1)", x.punch(0, 59, 1), 1);
         for (int file : NO_FILES) {
-            check.refused("punch(" + file + ", 0, 0)", x, INDEX, () -> x.punch(file, 0, 0));
+            check.refused("punch(" + file + ", 0, 0)", x, INDEX, y -> y.punch(file, 0, 0));
         }
         for (int block : NO_BLOCKS) {
-            check.refused("punch(0, " + block + ", 0)", x, INDEX, () -> x.punch(0, block, 0));
+            check.refused("punch(0, " + block + ", 0)", x, INDEX, y -> y.punch(0, block, 0));
         }
         for (int n : new int[] {0, -1, MIN, 61, MAX}) {
-            check.refused("punch(0, 0, " + n + ")", x, ARGUMENT, () -> x.punch(0, 0, n));
+            check.refused("punch(0, 0, " + n + ")", x, ARGUMENT, y -> y.punch(0, 0, n));
         }
-        check.refused("punch(0, 59, 2)", x, ARGUMENT, () -> x.punch(0, 59, 2));
+        check.refused("punch(0, 59, 2)", x, ARGUMENT, y -> y.punch(0, 59, 2));
     }
 
     private void punchInAFullVolume() {
         check.part("promise 5, punch when nothing is free");
-        DelayedExtents x = new DelayedExtents();
+        Tested x = new Tested();
         x.preallocate(0, 0, 60);
         x.preallocate(1, 0, 18);
         check.due("free()", x.free(), 0);
@@ -442,7 +442,7 @@ public final class PromisesTest {
 
     private void truncate() {
         check.part("promise 6, truncate");
-        DelayedExtents x = new DelayedExtents();
+        Tested x = new Tested();
         for (int b = 0; b < 6; b++) {
             x.write(0, b, 10 + b);
         }
@@ -469,16 +469,16 @@ public final class PromisesTest {
         check.due("free()", x.free(), 80);
         check.due("the other file's pages", x.about(1, 4), 1);
         for (int file : NO_FILES) {
-            check.refused("truncate(" + file + ", 61)", x, INDEX, () -> x.truncate(file, 61));
+            check.refused("truncate(" + file + ", 61)", x, INDEX, y -> y.truncate(file, 61));
         }
         for (int size : new int[] {-1, 61, MIN, MAX}) {
-            check.refused("truncate(1, " + size + ")", x, ARGUMENT, () -> x.truncate(1, size));
+            check.refused("truncate(1, " + size + ")", x, ARGUMENT, y -> y.truncate(1, size));
         }
     }
 
     private void flush() {
         check.part("promise 7, flush");
-        DelayedExtents x = new DelayedExtents();
+        Tested x = new Tested();
         x.write(0, 8, 8);
         x.write(0, 9, 9);
         x.write(1, 0, 100);
@@ -500,13 +500,13 @@ public final class PromisesTest {
         check.due("crash()", x.crash(), 1);
         check.due("flushed ones stay", x.read(0, 9), 9);
         for (int file : NO_FILES) {
-            check.refused("flush(" + file + ")", x, INDEX, () -> x.flush(file));
+            check.refused("flush(" + file + ")", x, INDEX, y -> y.flush(file));
         }
     }
 
     private void flushRowsFromTheLowest() {
         check.part("promise 7, flush of several rows");
-        DelayedExtents x = new DelayedExtents();
+        Tested x = new Tested();
         x.preallocate(3, 0, 20);
         x.punch(3, 5, 2);
         x.punch(3, 10, 3);
@@ -527,7 +527,7 @@ public final class PromisesTest {
 
     private void crash() {
         check.part("promise 8, crash");
-        DelayedExtents x = new DelayedExtents();
+        Tested x = new Tested();
         check.due("crash() without pages", x.crash(), 0);
         x.write(0, 0, 1);
         x.flush(0);
@@ -550,8 +550,8 @@ public final class PromisesTest {
 
     private void extent() {
         check.part("promise 9, extent");
-        DelayedExtents x = new DelayedExtents();
-        check.refused("extent(0, 0, 0) of an empty file", x, INDEX, () -> x.extent(0, 0, 0));
+        Tested x = new Tested();
+        check.refused("extent(0, 0, 0) of an empty file", x, INDEX, y -> y.extent(0, 0, 0));
         x.preallocate(2, 0, 1);
         x.write(0, 5, 1);
         x.write(0, 6, 1);
@@ -570,20 +570,20 @@ public final class PromisesTest {
         x.write(0, 20, 3);
         check.due("a page changes no extent", x.extent(0, 2, 3), 1);
         for (int file : NO_FILES) {
-            check.refused("extent(" + file + ", 0, 4)", x, INDEX, () -> x.extent(file, 0, 4));
+            check.refused("extent(" + file + ", 0, 4)", x, INDEX, y -> y.extent(file, 0, 4));
         }
         for (int k : new int[] {-1, 4, MIN, MAX}) {
-            check.refused("extent(0, " + k + ", 0)", x, INDEX, () -> x.extent(0, k, 0));
-            check.refused("extent(0, " + k + ", 4)", x, INDEX, () -> x.extent(0, k, 4));
+            check.refused("extent(0, " + k + ", 0)", x, INDEX, y -> y.extent(0, k, 0));
+            check.refused("extent(0, " + k + ", 4)", x, INDEX, y -> y.extent(0, k, 4));
         }
         for (int what : new int[] {-1, 4, MIN, MAX}) {
-            check.refused("extent(0, 0, " + what + ")", x, ARGUMENT, () -> x.extent(0, 0, what));
+            check.refused("extent(0, 0, " + what + ")", x, ARGUMENT, y -> y.extent(0, 0, what));
         }
     }
 
     private void extentsOfEight() {
         check.part("promise 9, extents of eight blocks");
-        DelayedExtents x = new DelayedExtents();
+        Tested x = new Tested();
         x.preallocate(0, 3, 8);
         check.due("a row of 8", Check.extents(x, 0), "3@0x8u");
         x.preallocate(0, 11, 1);
@@ -599,7 +599,7 @@ public final class PromisesTest {
 
     private void about() {
         check.part("promise 10, about");
-        DelayedExtents x = new DelayedExtents();
+        Tested x = new Tested();
         x.preallocate(1, 0, 30);
         x.write(1, 4, 1);
         x.write(1, 40, 1);
@@ -611,16 +611,16 @@ public final class PromisesTest {
             check.due("about(0, " + what + ")", x.about(0, what), 0);
         }
         for (int file : NO_FILES) {
-            check.refused("about(" + file + ", 6)", x, INDEX, () -> x.about(file, 6));
+            check.refused("about(" + file + ", 6)", x, INDEX, y -> y.about(file, 6));
         }
         for (int what : new int[] {-1, 6, MIN, MAX}) {
-            check.refused("about(1, " + what + ")", x, ARGUMENT, () -> x.about(1, what));
+            check.refused("about(1, " + what + ")", x, ARGUMENT, y -> y.about(1, what));
         }
     }
 
     private void treeBlocks() {
         check.part("promise 10, tree blocks");
-        DelayedExtents x = new DelayedExtents();
+        Tested x = new Tested();
         int[] want = {0, 0, 0, 0, 1, 2, 2, 2, 2, 3, 3, 3, 3, 4};
         for (int e = 0; e < want.length; e++) {
             check.due("extents", x.about(0, 2), e);
@@ -632,7 +632,7 @@ public final class PromisesTest {
 
     private void free() {
         check.part("promise 11, free");
-        DelayedExtents x = new DelayedExtents();
+        Tested x = new Tested();
         x.write(0, 0, 1);
         check.due("free() with a page", x.free(), 80);
         x.flush(0);
@@ -651,7 +651,7 @@ public final class PromisesTest {
 
     private void reserved() {
         check.part("promise 12, reserved");
-        DelayedExtents x = new DelayedExtents();
+        Tested x = new Tested();
         int[] want = {1, 2, 3, 5, 7, 8, 9, 10, 12};
         for (int h = 1; h <= want.length; h++) {
             x.write(0, h, 1);
@@ -677,7 +677,7 @@ public final class PromisesTest {
 
     private void owner() {
         check.part("promise 13, owner");
-        DelayedExtents x = new DelayedExtents();
+        Tested x = new Tested();
         x.write(3, 59, 1);
         check.due("owner(0) before the flush", x.owner(0), DelayedExtents.NONE);
         x.flush(3);
@@ -693,13 +693,13 @@ public final class PromisesTest {
         x.truncate(3, 0);
         check.due("owner(0)", x.owner(0), DelayedExtents.NONE);
         for (int place : NO_PLACES) {
-            check.refused("owner(" + place + ")", x, INDEX, () -> x.owner(place));
+            check.refused("owner(" + place + ")", x, INDEX, y -> y.owner(place));
         }
     }
 
     private void value() {
         check.part("promise 14, value");
-        DelayedExtents x = new DelayedExtents();
+        Tested x = new Tested();
         x.write(0, 0, MIN);
         check.due("value(0) before the flush", x.value(0), 0);
         x.flush(0);
@@ -718,7 +718,7 @@ public final class PromisesTest {
         check.due("value(69)", x.value(69), 3);
         check.due("value(79)", x.value(79), 0);
         for (int place : NO_PLACES) {
-            check.refused("value(" + place + ")", x, INDEX, () -> x.value(place));
+            check.refused("value(" + place + ")", x, INDEX, y -> y.value(place));
         }
     }
 }
