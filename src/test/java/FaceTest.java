@@ -8,21 +8,21 @@ import java.util.TreeSet;
 /** The class shows the document's face and nothing else (LANGUAGE.md, rule 1). */
 public final class FaceTest {
     private static final String[] FACE = {
-        "NONE int",
-        "about int [int, int] [IndexOutOfBoundsException, IllegalArgumentException]",
-        "crash int [] []",
-        "extent int [int, int, int] [IndexOutOfBoundsException, IllegalArgumentException]",
-        "flush int [int] [IndexOutOfBoundsException]",
-        "free int [] []",
-        "new []",
-        "owner int [int] [IndexOutOfBoundsException]",
-        "preallocate int [int, int, int] [IndexOutOfBoundsException, IllegalArgumentException, UnsupportedOperationException]",
-        "punch int [int, int, int] [IndexOutOfBoundsException, IllegalArgumentException]",
-        "read int [int, int] [IndexOutOfBoundsException]",
-        "reserved int [] []",
-        "truncate int [int, int] [IndexOutOfBoundsException, IllegalArgumentException]",
-        "value int [int] [IndexOutOfBoundsException]",
-        "write void [int, int, int] [IndexOutOfBoundsException, IllegalStateException, UnsupportedOperationException]",
+        "public static final int NONE",
+        "public DelayedExtents[]",
+        "public void write[int, int, int] [IndexOutOfBoundsException, IllegalStateException, UnsupportedOperationException]",
+        "public int read[int, int] [IndexOutOfBoundsException]",
+        "public int preallocate[int, int, int] [IndexOutOfBoundsException, IllegalArgumentException, UnsupportedOperationException]",
+        "public int punch[int, int, int] [IndexOutOfBoundsException, IllegalArgumentException]",
+        "public int truncate[int, int] [IndexOutOfBoundsException, IllegalArgumentException]",
+        "public int flush[int] [IndexOutOfBoundsException]",
+        "public int crash[] []",
+        "public int extent[int, int, int] [IndexOutOfBoundsException, IllegalArgumentException]",
+        "public int about[int, int] [IndexOutOfBoundsException, IllegalArgumentException]",
+        "public int free[] []",
+        "public int reserved[] []",
+        "public int owner[int] [IndexOutOfBoundsException]",
+        "public int value[int] [IndexOutOfBoundsException]",
     };
 
     public static void main(String[] args) {
@@ -31,6 +31,8 @@ public final class FaceTest {
         check.due("the visible members", visibleMembers().toString(), new TreeSet<>(Arrays.asList(FACE)).toString());
         check.due("NONE", DelayedExtents.NONE, -1);
         check.due("public and final", Modifier.toString(DelayedExtents.class.getModifiers()), "public final");
+        check.due("what it extends", DelayedExtents.class.getSuperclass().getSimpleName(), "Object");
+        check.due("what it implements", names(DelayedExtents.class.getInterfaces()), "[]");
         check.end();
     }
 
@@ -38,16 +40,16 @@ public final class FaceTest {
         TreeSet<String> members = new TreeSet<>();
         for (Field f : DelayedExtents.class.getDeclaredFields()) {
             if (!Modifier.isPrivate(f.getModifiers())) {
-                members.add(f.getName() + " " + f.getType());
+                members.add(Modifier.toString(f.getModifiers()) + " " + f.getType() + " " + f.getName());
             }
         }
         for (Constructor<?> c : DelayedExtents.class.getDeclaredConstructors()) {
-            members.add("new " + names(c.getParameterTypes()));
+            members.add(Modifier.toString(c.getModifiers()) + " " + c.getName() + names(c.getParameterTypes()));
         }
         for (Method m : DelayedExtents.class.getDeclaredMethods()) {
             if (!Modifier.isPrivate(m.getModifiers()) && !m.isSynthetic()) {
-                members.add(m.getName() + " " + m.getReturnType() + " " + names(m.getParameterTypes())
-                        + " " + names(m.getExceptionTypes()));
+                members.add(Modifier.toString(m.getModifiers()) + " " + m.getReturnType() + " " + m.getName()
+                        + names(m.getParameterTypes()) + " " + names(m.getExceptionTypes()));
             }
         }
         return members;

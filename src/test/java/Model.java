@@ -146,6 +146,19 @@ final class Model {
         return place < 0 || place > 79 ? "throws.IndexOutOfBoundsException" : "" + values[place];
     }
 
+    int pagesInAll() {
+        return pages.size();
+    }
+
+    /** How many extents the file with the most of them has. */
+    int mostExtents() {
+        int most = 0;
+        for (int f = 0; f < 4; f++) {
+            most = Math.max(most, extents(f).size());
+        }
+        return most;
+    }
+
     /** In the form of Check.state. */
     String state() {
         StringBuilder s = new StringBuilder();

@@ -1,29 +1,51 @@
 import java.util.TreeMap;
 
-/** Long runs of calls on the class and on the model; every answer and every state must agree. */
+/** Runs of 512 calls on the class and on the model; every answer and every state must agree. */
 public final class ModelRunsTest {
-    private static final int RUNS = 500;
-    /** A look at the whole state needs some of the calls that an object has. */
-    private static final int CALLS = Tested.MOST_CALLS - 72;
-    private static final int CALLS_BETWEEN_STATES = 40;
-    /** How often to write, preallocate, flush, punch, crash or truncate, and ask. */
-    private static final int[][] WEIGHTS = {
-        {16, 6, 4, 2, 1, 2},
-        {16, 6, 4, 6, 2, 2},
-        {24, 1, 1, 2, 1, 2},
-        {12, 8, 2, 8, 1, 2},
-        {16, 3, 6, 8, 4, 2},
-        {16, 6, 4, 2, 1, 30},
+    private static final int RUNS = 400;
+    private static final int CALLS_BETWEEN_LOOKS = 40;
+    private static final int OFTEN = 50;
+
+    /** How a run begins, and how often it then makes which calls. */
+    private enum Kind {
+        MIXED(50, 20, 12, 6, 3, 1, 20),
+        GIVING_BACK(40, 12, 14, 20, 6, 2, 20),
+        ASKING(30, 12, 8, 6, 2, 1, 60),
+        NEARLY_FULL(40, 25, 8, 8, 1, 1, 25),
+        ALL_PAGES(60, 6, 2, 6, 1, 1, 25),
+        MANY_EXTENTS(30, 12, 12, 6, 1, 1, 25);
+
+        private final int[] weights;
+
+        /** For write, preallocate, flush, punch, truncate, crash and the questions. */
+        Kind(int... weights) {
+            this.weights = weights;
+        }
+    }
+
+    private static final String[] CALLS = {
+        "write", "read", "preallocate", "punch", "truncate", "flush", "crash", "extent", "about", "free", "reserved",
+        "owner", "value",
+    };
+    private static final String[] STATES = {"in a nearly full volume", "with 24 pages", "with many extents"};
+    private static final String[] REFUSALS = {
+        "write throws.IndexOutOfBoundsException", "write throws.IllegalStateException",
+        "write throws.UnsupportedOperationException", "read throws.IndexOutOfBoundsException",
+        "preallocate throws.IndexOutOfBoundsException", "preallocate throws.IllegalArgumentException",
+        "preallocate throws.UnsupportedOperationException", "punch throws.IndexOutOfBoundsException",
+        "punch throws.IllegalArgumentException", "truncate throws.IndexOutOfBoundsException",
+        "truncate throws.IllegalArgumentException", "flush throws.IndexOutOfBoundsException",
+        "extent throws.IndexOutOfBoundsException", "extent throws.IllegalArgumentException",
+        "about throws.IndexOutOfBoundsException", "about throws.IllegalArgumentException",
+        "owner throws.IndexOutOfBoundsException", "value throws.IndexOutOfBoundsException",
     };
     private static final int[] ODD = {-1, Integer.MIN_VALUE, Integer.MAX_VALUE, 4, 60, 61, 80};
     private static final int[] LENGTHS = {1, 2, 3, 5, 8, 13, 30, 60};
 
     private final Check check = new Check();
-    /** How often each call had each kind of answer: a run that never throws tests too little. */
-    private final TreeMap<String, Integer> seen = new TreeMap<>();
+    private final TreeMap<String, Integer> met = new TreeMap<>();
     private long seed;
-    private Tested x;
-    private Model m;
+    private SideBySide both;
 
     public static void main(String[] args) {
         new ModelRunsTest().all();
@@ -37,46 +59,88 @@ public final class ModelRunsTest {
         }
         if (check.allRight()) {
             check.part("what the runs met");
-            checkKinds();
+            checkWhatWasMet();
         }
         check.end();
     }
 
-    private void checkKinds() {
-        String[] kinds = {
-            "write ok", "write throws.IndexOutOfBoundsException", "write throws.IllegalStateException",
-            "write throws.UnsupportedOperationException", "preallocate ok",
-            "preallocate throws.IndexOutOfBoundsException", "preallocate throws.IllegalArgumentException",
-            "preallocate throws.UnsupportedOperationException", "punch ok", "punch throws.IndexOutOfBoundsException",
-            "punch throws.IllegalArgumentException", "truncate ok", "truncate throws.IndexOutOfBoundsException",
-            "truncate throws.IllegalArgumentException", "flush ok", "flush throws.IndexOutOfBoundsException",
-            "crash ok", "extent ok", "extent throws.IndexOutOfBoundsException",
-            "extent throws.IllegalArgumentException", "about ok", "about throws.IndexOutOfBoundsException",
-            "about throws.IllegalArgumentException", "read ok", "read throws.IndexOutOfBoundsException",
-            "owner ok", "owner throws.IndexOutOfBoundsException", "value ok", "value throws.IndexOutOfBoundsException",
-        };
-        for (String kind : kinds) {
-            check.due(kind + " met often", seen.getOrDefault(kind, 0) >= 50 ? 1 : 0, 1);
+    /** Runs that seldom throw, or seldom come near a limit, would test too little. */
+    private void checkWhatWasMet() {
+        for (String refusal : REFUSALS) {
+            metOften(refusal);
         }
+        for (String call : CALLS) {
+            metOften(call + " answers");
+            for (String state : STATES) {
+                metOften(call + " " + state);
+            }
+        }
+    }
+
+    private void metOften(String what) {
+        check.due(what + ", met often", met.getOrDefault(what, 0) >= OFTEN ? 1 : 0, 1);
     }
 
     private void oneRun(int run) {
         seed = run * 7919L;
-        x = new Tested();
-        m = new Model();
-        // Some runs stay in few blocks; some fill the volume, some the pages, some give back much.
-        int reach = run % 3 == 0 ? 20 : 60;
-        int[] weights = WEIGHTS[run % WEIGHTS.length];
-        int nextState = CALLS_BETWEEN_STATES;
-        while (x.calls() < CALLS) {
-            oneCall(reach, weights);
-            check.due("whether free is less than reserved", m.free() < m.reserved() ? 1 : 0, 0);
-            if (x.calls() >= nextState) {
-                check.due("the state at call " + x.calls(), Check.state(x), m.state());
-                nextState += CALLS_BETWEEN_STATES;
+        both = new SideBySide(check, met);
+        Kind kind = Kind.values()[run % Kind.values().length];
+        prepare(kind);
+        int reach = below(3) == 0 ? 20 : 60;
+        while (both.hasCallsLeft()) {
+            oneCall(reach, kind.weights);
+            if (both.calls() % CALLS_BETWEEN_LOOKS == 0) {
+                both.lookAtAll();
             }
         }
-        check.due("the state at the end", Check.state(x), m.state());
+        both.lookAtAll();
+    }
+
+    private void prepare(Kind kind) {
+        switch (kind) {
+            case NEARLY_FULL:
+                fillVolume();
+                break;
+            case ALL_PAGES:
+                fillPages();
+                break;
+            case MANY_EXTENTS:
+                makeExtents(below(4));
+                break;
+            default:
+                break;
+        }
+    }
+
+    private void fillVolume() {
+        int first = below(4);
+        both.preallocate(first, below(10), 20 + below(31));
+        for (int f = 0; f < 4; f++) {
+            both.preallocate(f, below(40), 8 + below(12));
+        }
+        for (int length = 8; length >= 1; length /= 2) {
+            both.preallocate((first + 1) % 4, 60 - length, length);
+            both.preallocate((first + 2) % 4, below(20), length);
+        }
+    }
+
+    private void fillPages() {
+        for (int i = 0; i < 24; i++) {
+            both.write(below(4), below(60), 1 + below(1000));
+        }
+    }
+
+    /** Every second block of an unwritten row is written: no two neighbours can be one extent. */
+    private void makeExtents(int file) {
+        int blocks = 30 + below(21);
+        both.preallocate(file, 0, blocks);
+        for (int b = 0; b < blocks; b += 2) {
+            both.write(file, b, 1 + below(1000));
+            if (b % 12 == 10) {
+                both.flush(file);
+            }
+        }
+        both.flush(file);
     }
 
     private void oneCall(int reach, int[] weights) {
@@ -85,21 +149,23 @@ public final class ModelRunsTest {
         int n = oddly(LENGTHS[below(LENGTHS.length)]);
         switch (drawn(weights)) {
             case 0:
-                int value = 1 + below(1000);
-                agree("write", file, block, value, Check.answer(() -> Check.write(file, block, value).applyAsInt(x)), m.write(file, block, value));
+                both.write(file, block, 1 + below(1000));
                 break;
             case 1:
-                agree("preallocate", file, block, n, Check.answer(() -> x.preallocate(file, block, n)), m.preallocate(file, block, n));
+                both.preallocate(file, block, n);
                 break;
             case 2:
-                agree("flush", file, 0, 0, Check.answer(() -> x.flush(file)), m.flush(file));
+                both.flush(file);
                 break;
             case 3:
-                int few = n > 3 && n < 60 ? 2 : n;
-                agree("punch", file, block, few, Check.answer(() -> x.punch(file, block, few)), m.punch(file, block, few));
+                // A run that punches long rows would soon be empty.
+                both.punch(file, block, n > 3 && n < 60 ? 2 : n);
                 break;
             case 4:
-                crashOrTruncate(file, block);
+                both.truncate(file, below(4) == 0 ? oddly(60) : block);
+                break;
+            case 5:
+                both.crash();
                 break;
             default:
                 ask(file, block);
@@ -113,39 +179,39 @@ public final class ModelRunsTest {
             sum += weight;
         }
         int left = below(sum);
-        int kind = 0;
-        while (left >= weights[kind]) {
-            left -= weights[kind];
-            kind++;
+        int drawn = 0;
+        while (left >= weights[drawn]) {
+            left -= weights[drawn];
+            drawn++;
         }
-        return kind;
-    }
-
-    private void crashOrTruncate(int file, int block) {
-        if (below(4) == 0) {
-            agree("crash", 0, 0, 0, Check.answer(() -> x.crash()), m.crash());
-        } else {
-            int size = oddly(below(4) == 0 ? 60 : block);
-            agree("truncate", file, size, 0, Check.answer(() -> x.truncate(file, size)), m.truncate(file, size));
-        }
+        return drawn;
     }
 
     private void ask(int file, int block) {
         int place = oddly(below(80));
-        int k = oddly(below(12));
-        int what = oddly(below(6));
-        agree("read", file, block, 0, Check.answer(() -> x.read(file, block)), m.read(file, block));
-        agree("extent", file, k, what, Check.answer(() -> x.extent(file, k, what)), m.extent(file, k, what));
-        agree("about", file, what, 0, Check.answer(() -> x.about(file, what)), m.about(file, what));
-        agree("owner", place, 0, 0, Check.answer(() -> x.owner(place)), m.owner(place));
-        agree("value", place, 0, 0, Check.answer(() -> x.value(place)), m.value(place));
-        agree("free", 0, 0, 0, "" + x.free(), "" + m.free());
-        agree("reserved", 0, 0, 0, "" + x.reserved(), "" + m.reserved());
-    }
-
-    private void agree(String call, int a, int b, int c, String got, String want) {
-        check.due(call + " with " + a + ", " + b + ", " + c, got, want);
-        seen.merge(call + " " + (want.startsWith("throws.") ? want : "ok"), 1, Integer::sum);
+        switch (below(7)) {
+            case 0:
+                both.read(file, block);
+                break;
+            case 1:
+                both.extent(file, oddly(below(below(2) == 0 ? 8 : 60)), oddly(below(5)));
+                break;
+            case 2:
+                both.about(file, oddly(below(7)));
+                break;
+            case 3:
+                both.owner(place);
+                break;
+            case 4:
+                both.value(place);
+                break;
+            case 5:
+                both.free();
+                break;
+            default:
+                both.reserved();
+                break;
+        }
     }
 
     private int oddly(int usual) {
